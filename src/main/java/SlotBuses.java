@@ -840,7 +840,7 @@ public final class SlotBuses {
         /** CD of what is ACTIVE, else RQ, is one more at each LEVEL below. */
         void raiseBelow(int base, int level) {
             for (int line = base; line < base + level; line++) {
-                if (isActive(line)) {
+                if (length[line] > 0) {
                     cd[line]++;
                 } else {
                     rq[line]++;
@@ -851,7 +851,7 @@ public final class SlotBuses {
         /** An empty SLOT passed: CD of what is ACTIVE, else RQ, is one less at each LEVEL. */
         void easeBelow(int base, int level) {
             for (int line = base; line < base + level; line++) {
-                if (isActive(line)) {
+                if (length[line] > 0) {
                     cd[line] = Math.max(0, cd[line] - 1);
                 } else {
                     rq[line] = Math.max(0, rq[line] - 1);
@@ -1695,13 +1695,12 @@ public final class SlotBuses {
         int emptyBehind(Row now) {
             apart.copyFrom(now);
             int left = ticksLeft(now);
-            for (int t = 0; t <= left; t++) {
-                if (apart.lines.total == 0) {
-                    return t;
-                }
+            int t = 0;
+            while (t < left && apart.lines.total > 0) {
                 apart.pass(1);
+                t++;
             }
-            return NONE;
+            return apart.lines.total == 0 ? t : NONE;
         }
 
         int slotsOf(Row now, int station, int n) {
