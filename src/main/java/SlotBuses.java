@@ -625,10 +625,8 @@ public final class SlotBuses {
             x = seed;
         }
 
+        /** What an ACT does not need of a, b, c, d may be left from another one. */
         void choose(Row row) {
-            b = 0;
-            c = 0;
-            d = 0;
             int sort = draw(8);
             if (sort <= 3) {
                 kind = COME;
@@ -1353,8 +1351,8 @@ public final class SlotBuses {
                     answer = sever(a);
                     break;
                 case HEALED:
+                    // Nothing is on it: the CUT emptied it, and nothing goes onto a CUT HOP.
                     cuts &= ~(1 << a);
-                    hops.empty(a);
                     answer = time;
                     break;
                 case ERASER:
@@ -1549,10 +1547,8 @@ public final class SlotBuses {
             int hop = bus == 0 ? station : station - 1;
             if (!isOpen(hop)) {
                 tally.addLost(slot.isUnread() ? 1 : 0);
-                slot.there = false;
             } else if (delay > 0) {
                 hops.put(hop, bus, time % (delay + 1), slot);
-                slot.there = false;
             }
         }
 

@@ -814,6 +814,10 @@ public final class PromisesTest {
         x.cut(0);
         due("25 it would be lost", x.when(1), NONE);
         due("25 no row", new SlotBuses().when(1), NONE);
+        x = crowd();
+        due("25 not within 200", x.when(26), NONE);
+        x.tick(1);
+        due("25 just within 200", x.when(26), 200);
         x = row("sn2");
         late(x);
         for (int i = 0; i < 3; i++) x.come(0, 1, 0, 9);
@@ -821,6 +825,15 @@ public final class PromisesTest {
         due("25 not behind it", x.when(20), NONE);
         x.tick(19);
         due("25 no tick more", x.when(20), NONE);
+    }
+
+    /** 189 that wait, more than 200 TICKS can bring. */
+    private static SlotBuses crowd() {
+        SlotBuses x = row("sn8b1");
+        for (int from = 0; from < 7; from++) {
+            for (int i = 0; i < 3; i++) x.come(from, 7, 0, 9);
+        }
+        return x;
     }
 
     private static void p26Next() {
@@ -832,6 +845,15 @@ public final class PromisesTest {
         due("26 no row", new SlotBuses().next(0), NONE);
         x.tick(1);
         due("26 from as it is now", x.next(0), 1);
+        x = row("sn2");
+        late(x);
+        for (int i = 0; i < 3; i++) x.come(0, 1, 0, 9);
+        due("26 the last to TIME's end", x.next(18), 19);
+        due("26 not behind it", x.next(19), NONE);
+        x = crowd();
+        x.tick(1);
+        due("26 the last within 200", x.next(174), 26);
+        due("26 none behind 200", x.next(175) * 1000 + x.ahead(200, 0), -825);
     }
 
     private static void p27Drained() {
@@ -841,6 +863,10 @@ public final class PromisesTest {
         due("27 nothing waits, though some are under way", x.drained() * 10 + x.all(2), 3);
         due("27 nothing ever waited", row("s").drained(), 0);
         due("27 no row", new SlotBuses().drained(), NONE);
+        x = crowd();
+        due("27 not within 200", x.drained(), NONE);
+        for (int i = 0; i < 60 && x.drained() == NONE; i++) x.tick(1);
+        due("27 just within 200", x.drained(), 200);
         x = row("sn2b1;qm9;qm9;qm9;qm3");
         due("27 with balance", x.drained(), 59);
         late(x);
@@ -903,6 +929,18 @@ public final class PromisesTest {
         x.come(1, 2, 0, 1);
         due("30 what is under way does not count", x.firstCome(), true);
         due("30 apart", x.all(0), 1);
+        x = row("sn4");
+        late(x);
+        x.tick(17);
+        x.come(2, 3, 0, 1);
+        x.come(0, 3, 0, 1);
+        due("30 the later one just at TIME's end", x.firstCome(), false);
+        x.undo();
+        x.undo();
+        x.tick(1);
+        x.come(2, 3, 0, 1);
+        x.come(0, 3, 0, 1);
+        due("30 the later one not to TIME's end", x.firstCome(), true);
     }
 
     private static void p31Worst() {
@@ -1064,6 +1102,8 @@ public final class PromisesTest {
         for (int script : new int[] {-1, 2, MIN, MAX}) due("38 no such script", x.perform(script), NONE);
         Check.script(x, "e2;t5");
         due("38 all", x.perform(2), 2);
+        Check.script(x, "t60");
+        due("38 a single step", x.perform(3), 1);
     }
 
     private static void p39All() {
