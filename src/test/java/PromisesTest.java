@@ -138,6 +138,11 @@ public final class PromisesTest {
         fault("t1,2", 1, 2);
         fault("c", 1, 1);
         fault("c12", 1, 2);
+        fault("c05", 1, 2);
+        fault("c123", 1, 2);
+        fault("q0,00,0,1", 1, 4);
+        fault("w1 2", 1, 3);
+        fault("w12", 1, 2);
         fault("c1;", 1, 3);
         fault("q0,1,0", 1, 6);
         fault("q0,1,0,", 1, 7);
@@ -156,6 +161,17 @@ public final class PromisesTest {
         fault("t1;t1;t1;t1;t1;t1;t1;t1;t1;t1;t1;t1;t1;t1;t1;t1 ;", 1, 48);
         fault("t1;t1;t1;t1;t1;t1;t1;t1;t1;t1;t1;t1;t1;t1;t1;t1x", 1, 47);
         for (int sort : new int[] {-1, 2, -2, MIN, MAX}) fault("s", sort, -2);
+        SlotBuses x = new SlotBuses();
+        Check.feed(x, "sn    5");
+        x.end(2);
+        due("4 what stood behind the end is gone", x.fault(0), 2);
+        x.end(0);
+        Check.feed(x, " ".repeat(240));
+        due("4 a full tape of blanks", x.fault(0), 240);
+        due("4 a full tape of blanks", x.fault(1), 240);
+        x.end(239);
+        Check.feed(x, "s");
+        due("4 the last byte of a full tape", x.fault(0) * 1000 + x.fault(1), -1000 + 239);
     }
 
     private static void p05Text() {
@@ -207,6 +223,12 @@ public final class PromisesTest {
         due("5 the tape stays then", x.count(2), 2);
         due("5 a fault leaves the row", x.text(0), NONE);
         due("5 the row stays", x.rule(2), 1);
+        for (int i = 0; i < 2; i++) {
+            Check.again(x, "sn8;qf3t1m9");
+            for (int k = 0; k < 240; k++) x.come(k % 8, (k + 1) % 8, 0, 1);
+            due("5 each row has room for all that may wait", x.all(1), 240);
+            due("5 each of them", x.waiting(7, 1, 0, 29, 1) * 100 + x.waiting(0, 0, 0, 29, 1), 1);
+        }
         x = new SlotBuses();
         due("5 a script without a row", Check.script(x, "t1"), 0);
         due("5 no row by that", x.count(0), 0);
@@ -558,6 +580,8 @@ public final class PromisesTest {
         for (int i = 0; i < 30; i++) x.come(2, 3, 0, 1);
         x.withdraw(2, 3);
         due("16 there is room again", x.come(2, 3, 0, 9), 49);
+        x = row("sn8l3;qf7t0m3;qf7t0l2m3;qf7t6l1m2");
+        due("16 of the last station, all levels", x.withdraw(7, 0) * 10 + x.all(1), 44);
         for (int[] a : new int[][] {{-1, 0}, {4, 0}, {0, 4}, {0, -1}, {MIN, MAX}, {MAX, MAX}}) {
             x = row("qm3");
             refused("16 withdraw(" + a[0] + ", " + a[1] + ")", x, x.withdraw(a[0], a[1]), 0);
@@ -1104,6 +1128,11 @@ public final class PromisesTest {
         due("38 all", x.perform(2), 2);
         Check.script(x, "t60");
         due("38 a single step", x.perform(3), 1);
+        x = row("sn3");
+        Check.script(x, "t1;t1;t1;t1");
+        Check.script(x, "e0");
+        due("38 a short one behind a long one", x.perform(1) * 100 + x.count(3) * 10 + x.all(0), 110);
+        due("38 as run() tells", x.run(1, 0), NONE);
     }
 
     private static void p39All() {
