@@ -69,6 +69,10 @@ final class Check {
         }
     }
 
+    static int looked() {
+        return looked;
+    }
+
     static void finish() {
         System.out.println(looked + " answers looked at, " + wrong + " wrong");
         if (wrong != 0) {
