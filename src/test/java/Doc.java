@@ -11,6 +11,7 @@ final class Doc {
         + "none|nothing|no such|empty|EMPTY|above|below|within|refused|alone|less|stays?|gone|instead|round)\\b");
     private static final String[] SECTIONS = new String[PROMISES + 1];
     private static final boolean[][] QUOTED = new boolean[PROMISES + 1][];
+    private static boolean there = false;
     private static String quote = "";
     private static int lookedAhead = 0;
     private static int quotes = 0;
@@ -19,7 +20,13 @@ final class Doc {
     }
 
     static void open(String project) throws IOException {
-        String all = Files.readString(Path.of(project, "..", "shared", "DOC.md")).replaceAll("```(text|java)?", " ").replaceAll("\\s+", " ");
+        Path doc = Path.of(project, "..", "shared", "DOC.md");
+        there = Files.exists(doc);
+        if (!there) {
+            System.out.println("no " + doc + ": the answers are looked at, the quotes are not");
+            return;
+        }
+        String all = Files.readString(doc).replaceAll("```(text|java)?", " ").replaceAll("\\s+", " ");
         int from = 0;
         for (int p = 0; p <= PROMISES; p++) {
             int to = all.indexOf(p < PROMISES ? "## Promise " + (p + 1) + ":" : "## Not promised");
@@ -34,6 +41,9 @@ final class Doc {
         closeQuote();
         quote = (section == 0 ? "Terms" : "Promise " + section) + ", \"" + words + "\"";
         quotes++;
+        if (!there) {
+            return;
+        }
         int at = SECTIONS[section].indexOf(words);
         Check.due(quote + " stands in the document", at >= 0, true);
         for (int i = 0; at >= 0 && i < words.length(); i++) {
@@ -50,8 +60,9 @@ final class Doc {
     }
 
     private static void closeQuote() {
+        // The first of the answers looked at is that the words stand in the document.
         if (quotes > 0) {
-            Check.due(quote + " has a test", Check.looked() > lookedAhead + 1, true);
+            Check.due(quote + " has a test", Check.looked() > lookedAhead + (there ? 1 : 0), true);
         }
         lookedAhead = Check.looked();
     }
@@ -59,7 +70,7 @@ final class Doc {
     /** Every part of a sentence that names an edge was quoted. */
     static void close() {
         closeQuote();
-        for (int p = 0; p <= PROMISES; p++) {
+        for (int p = 0; there && p <= PROMISES; p++) {
             int from = p == 0 ? SECTIONS[0].indexOf("## Terms") : 0;
             for (int to = from + 1; to <= SECTIONS[p].length(); to++) {
                 if (to == SECTIONS[p].length() || SECTIONS[p].charAt(to) == ' ' && ".;:".indexOf(SECTIONS[p].charAt(to - 1)) >= 0) {

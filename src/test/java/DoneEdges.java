@@ -189,12 +189,18 @@ final class DoneEdges {
         Check.script(x, "t1;e0;t1;e0;t1;e0;t1;e0;t1;e0;t1;e0;t1;e0;t1;e0");
         for (int i = 0; i < 4; i++) Doc.due("16 STEPS", x.perform(0), 16);
         Doc.due("the latest 60, the latest 40", x.count(3) * 100 + x.count(4), 6040);
+        x = Check.row("sn3");
+        Check.script(x, "t1;e0;t2;e1;c0");
+        Check.script(x, "e2;t3");
+        Doc.due("a short SCRIPT behind a longer one", x.run(1, 0) * 100 + x.perform(1) * 10 + x.count(3), 100 * NONE + 22);
+        Doc.due("its STEPS alone", x.rule(4) * 100 + x.rule(5) * 10 + x.all(0), 403);
         Doc.says(38, "DO: how many STEPS were done. NONE: no such SCRIPT, no ROW.");
         Check.script(x, "t0");
-        Doc.due("none", x.perform(1), 0);
+        Doc.due("none", x.perform(2), 0);
+        Doc.due("a fourth one is none yet", x.perform(3), NONE);
         Check.script(x, "e1");
-        Doc.due("one, all", x.perform(2), 1);
-        for (int script : new int[] {-1, 3, 4, MIN, MAX}) Doc.due("SCRIPT " + script, x.perform(script), NONE);
+        Doc.due("one, all", x.perform(3), 1);
+        for (int script : new int[] {-1, 4, MIN, MAX}) Doc.due("SCRIPT " + script, x.perform(script), NONE);
         x = new SlotBuses();
         Check.script(x, "t1");
         Doc.due("no ROW", x.perform(0), NONE);
@@ -234,6 +240,14 @@ final class DoneEdges {
         x = Check.row("sn3d3;qf0t1;qf1t2");
         x.tick(4);
         Doc.due("READ is not under way", x.hop(1, 0, 1) * 10 + x.all(2), 10);
+        x = Check.row("sn2;qm5;qf1t0m3");
+        x.tick(9);
+        Doc.due("the sum of all WAITS", x.all(5), 0 + 1 + 2 + 3 + 4 + 0 + 1 + 2);
+        for (int s = 0; s < 8; s++) {
+            x = Check.row("sn8");
+            for (int k = 0; k < 8; k++) x.come(k, 7 - k, 0, k == s ? 2 : 1);
+            Doc.due("most wait at " + s, x.all(7), s);
+        }
         x = Check.row("sn8;qf3t0m2;qf5t0m3;qf7t0m3");
         Doc.due("of several the lowest", x.all(7), 5);
         x.come(7, 0, 0, 1);
@@ -288,10 +302,25 @@ final class DoneEdges {
             y.back();
             return y;
         };
-        long[] due = Face.told(was);
-        long[] got = Face.told(is);
-        for (int i = 0; i < due.length; i++) Doc.due("BACK, " + Face.name(i), got[i], due[i]);
-        Doc.due("BACK, as it goes on", Face.hidden(is).equals(Face.hidden(was)), true);
+        Lived.alike("BACK", is, was);
+        for (int i = 0; i < Lived.SEEDS; i++) {
+            int seed = i;
+            Lived.alike("BACK, seed " + seed, () -> {
+                SlotBuses y = Lived.row(seed);
+                y.image();
+                y.years(20, seed + 7);
+                y.reserve(0, 0, 9);
+                y.withdraw(0, 1);
+                y.tick(20);
+                y.back();
+                return y;
+            }, () -> {
+                SlotBuses y = Lived.row(seed);
+                y.image();
+                y.back();
+                return y;
+            });
+        }
         x.tick(3);
         Doc.due("ACTS ahead of the IMAGE and behind it", x.count(4), 4);
         x.back();

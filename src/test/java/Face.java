@@ -168,7 +168,26 @@ final class Face {
         answers.add((long) x.tick(1));
         answers.add((long) x.years(9, 9));
         for (int what = 0; what < 11; what++) answers.add((long) x.all(what));
+        for (int s = 0; s < 8; s++) {
+            answers.add((long) x.mean(s, 0) * 1000 + x.mean(s, 1));
+            for (int what = 0; what < 6; what++) answers.add((long) x.station(s, what));
+        }
+        addLines(maker.make(), answers);
         return answers;
+    }
+
+    /** One more comes to each LINE of LEVEL 0: how the LINES are then. */
+    private static void addLines(SlotBuses x, List<Long> answers) {
+        for (int s = 0; s < 8; s++) {
+            answers.add((long) x.come(s, s - 1, 0, 1));
+            answers.add((long) x.come(s, s + 1, 0, 1));
+        }
+        for (int s = 0; s < 8; s++) {
+            for (int bus = 0; bus < 2; bus++) {
+                int length = Math.min(12, Check.line(x, s, bus, 0, 0));
+                for (int i = 0; i < length; i++) answers.add(x.waiting(s, bus, 0, i, 0) * 100L + x.waiting(s, bus, 0, i, 1));
+            }
+        }
     }
 
     static int probes() {

@@ -320,6 +320,8 @@ final class LookEdges {
         Doc.due("of two LEVELS", Check.row("sn4l2;qf2t3;qf0t3l1").firstCome(), true);
         Doc.due("one of each BUS", Check.row("sn4d1;qf0t3;qf3t2").firstCome(), true);
         Doc.due("in one TICK: no later", Check.row("sn4e2;qf2t3;qf0t1").firstCome(), true);
+        Doc.due("in one TICK, then others", Check.row("sn4e2;qf2t3;qf0t1;qf0t3m2").firstCome(), true);
+        for (int k = 0; k < 36; k++) farAndNear(k / 18, k / 6 % 3, k / 3 % 2, k % 3);
         Doc.due("one TICK later", Check.row("sn4;qf2t3;qf0t1").firstCome(), false);
         x = Check.row("sn3d3;qf1t2;qf0t2");
         x.tick(1);
@@ -328,6 +330,8 @@ final class LookEdges {
         x = Check.row("sn4;qf2t3;qf0t3");
         x.cut(1);
         Doc.due("what will be LOST is none of them", x.firstCome(), true);
+        x = Check.row("sn2;qm9");
+        for (int i = 0; i < 3; i++) Doc.due("again and again", x.firstCome(), true);
         Doc.says(30, "False: no ROW, too.");
         Doc.due("no ROW", new SlotBuses().firstCome(), false);
         Doc.due("none waits", Check.row("s").firstCome(), true);
@@ -338,6 +342,17 @@ final class LookEdges {
             x.come(0, 3, 0, 1);
             Doc.due(left + " to TIME's end", x.firstCome(), left < 2);
         }
+    }
+
+    /** A far one, then a near one that is there sooner: each of a BUS and a LEVEL. */
+    private static void farAndNear(int bus, int level, int otherBus, int otherLevel) {
+        SlotBuses x = Check.row("sn8d3l3;" + (bus == 0 ? "qf0t7l" : "qf7t0l") + level + ";" + (otherBus == 0 ? "qf0t1l" : "qf7t6l") + otherLevel);
+        Doc.due("the near one is sooner there", x.when(2) < x.when(1), true);
+        Doc.due("BUS " + bus + ", LEVEL " + level + ", and " + otherBus + ", " + otherLevel, x.firstCome(), bus != otherBus || level != otherLevel);
+        x.tick(6);
+        Doc.due("none waits any more", x.firstCome(), true);
+        x.come(bus == 0 ? 0 : 7, bus == 0 ? 7 : 0, level, 1);
+        Doc.due("one alone", x.firstCome(), true);
     }
 
     private static void worst() {
@@ -352,6 +367,17 @@ final class LookEdges {
         }
         SlotBuses x = Check.row("sn4;qf1t2m3;qf3t0");
         Doc.due("of both BUSES", x.worst(0) * 10 + x.worst(1), 14);
+        for (int n = 2; n <= 8; n++) {
+            for (int hop = 0; hop < n - 1; hop++) {
+                for (int level = 0; level < 3; level++) {
+                    x = Check.row("sn" + n + "l3;qf" + hop + "t" + (hop + 1) + "l" + level);
+                    Doc.due("of BUS 0, LEVEL " + level, x.worst(0) * 10 + x.worst(1), 10 * hop + 1);
+                    x = Check.row("sn" + n + "l3;qf" + (hop + 1) + "t" + hop + "l" + level);
+                    Doc.due("of BUS 1, LEVEL " + level, x.worst(0) * 10 + x.worst(1), 10 * hop + 1);
+                }
+            }
+        }
+        x = Check.row("sn4;qf1t2m3;qf3t0");
         x.cut(1);
         Doc.due("one that is not CUT: of several the lowest", x.worst(0) * 10 + x.worst(1), 1);
         Doc.due("none waits: the lowest", Check.row("sn4").worst(0) * 10 + Check.row("sn4").worst(1), 0);
@@ -377,6 +403,9 @@ final class LookEdges {
         x = Check.row("sn5;qf1t2;qf3t4");
         Doc.due("2 or 3", x.gain(1, 0) * 10 + x.gain(1, 1), 22);
         Doc.due("within two TICKS all come: the lowest", x.gain(2, 0) * 10 + x.gain(2, 1), 2);
+        x = Check.row("sn5;qf0t1m9");
+        x.tick(3);
+        for (int n = 1; n <= 9; n++) Doc.due("within " + n + " TICKS, not what was DELIVERED till now", x.gain(n, 1), Math.min(n, 6));
         x = Check.row("sn3");
         Doc.due("none waits: the lowest", x.gain(1, 0) * 10 + x.gain(200, 1), 0);
         Doc.says(32, "GAIN: the STATION (0), how many (1). NONE: all are ERASERS, no ROW, n not 1 .. 200, TIME would be above 9,999, no such what.");

@@ -225,6 +225,7 @@ final class TextEdges {
         script(text + ",1", text.length());
         for (int at = 1; at < text.length(); at += 2) {
             script(text.substring(0, at) + "1" + text.substring(at), at + 1);
+            script(text.substring(0, at) + "0" + text.substring(at), at + 1);
             script(text.substring(0, at) + "x" + text.substring(at + 1), at);
             script(text.substring(0, at) + text.substring(at + 1), at);
         }
@@ -373,6 +374,7 @@ final class TextEdges {
         for (int room = 0; room <= 20; room++) {
             for (int bytes = 0; bytes <= 20; bytes++) full(room, bytes);
         }
+        for (int sign = 1; sign <= 255; sign++) lastByte(sign);
         Doc.says(3, "The TAPE has its first n bytes alone. False: n.");
         x = new SlotBuses();
         Doc.due("0 of none", x.end(0), true);
@@ -411,6 +413,19 @@ final class TextEdges {
         Doc.due(bytes + " behind " + (240 - room), answer, bytes <= room ? 240 - room + bytes : NONE);
         Doc.due("so many are there", x.count(2), bytes <= room ? 240 - room + bytes : 240 - room);
         Doc.due("none came of those that are too many", x.fault(0), bytes > room || bytes == 0 ? NONE : 240 - room);
+    }
+
+    /** Each byte counts as one, wherever it stands in its number. */
+    private static void lastByte(int sign) {
+        for (int shift = 0; shift < 32; shift += 8) {
+            int one = sign << shift;
+            SlotBuses x = new SlotBuses();
+            Check.feed(x, "s" + " ".repeat(238));
+            Doc.due("two of byte " + sign + " behind 239", x.feed(one, 0, 0, 0, one), NONE);
+            Doc.due("one of byte " + sign + " behind 239", x.feed(0, 0, one, 0, 0), 240);
+            Doc.due("one of byte " + sign + " behind 240", x.feed(0, one, 0, 0, 0), NONE);
+            Doc.due("that byte came", x.fault(0), sign == ' ' ? NONE : sign == ';' ? 240 : "ndble".indexOf((char) sign) >= 0 ? 240 : 239);
+        }
     }
 
     private static void texts() {
@@ -459,6 +474,28 @@ final class TextEdges {
         Check.again(x, "sn3d3");
         x.tick(3);
         Doc.due("nothing of another ROW comes by the HOPS", x.all(3) + x.hop(0, 0, 1) + x.hop(1, 0, 1) + x.hop(0, 1, 1) + x.hop(1, 1, 1), 0);
+        for (int i = 0; i < Lived.SEEDS; i++) {
+            int seed = i;
+            String text = seed % 2 == 0 ? "sn8l3b5;qf7t6;qf0t7m9" : "sn2d" + seed % 4;
+            Lived.alike("a ROW behind that of seed " + seed, () -> {
+                SlotBuses y = Lived.row(seed);
+                Check.again(y, text);
+                return y;
+            }, () -> {
+                SlotBuses y = new SlotBuses();
+                Check.script(y, "q0,1,0,3;t2;c0;h0;e0;w0,1;r0,1,2");
+                Check.script(y, "e1;t1");
+                Check.again(y, text);
+                return y;
+            });
+        }
+        x = new SlotBuses();
+        for (int i = 0; i < 2; i++) {
+            Check.again(x, "sn8;qf3t1m9");
+            for (int k = 0; k < 30; k++) for (int f = 0; f < 8; f += 7) x.come(f, 7 - f, 0, 1);
+            for (int f = 1; f < 7; f++) for (int k = 0; k < 4; k++) x.come(f, 0, 0, Math.min(9, 30 - x.station(f, 0)));
+            Doc.due("there is room for all that may wait", x.all(1), 240);
+        }
         Doc.says(5, "NONE: a FAULT (the TAPE stays), no such sort, there are four SCRIPTS.");
         x = used();
         Check.feed(x, "sn9");

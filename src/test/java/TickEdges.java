@@ -262,6 +262,11 @@ final class TickEdges {
         Doc.due("no ERASER", x.tick(1) * 10 + x.all(10), 10);
         x = Check.row("sn2e3;q;qf1t0");
         Doc.due("at the last STATION, too", x.tick(1) * 10 + x.all(10), 22);
+        for (int d = 0; d <= 3; d++) {
+            x = Check.row("sn4d" + d + "e9;qf0t1;qf3t1;qf0t2");
+            x.tick(20);
+            Doc.due("READ ahead, DELAY " + d, x.all(3) * 10 + x.all(10), 33);
+        }
     }
 
     private static void goesInto() {
@@ -395,6 +400,11 @@ final class TickEdges {
         x.tick(1);
         Doc.due("not READ, of both BUSES", x.all(3) * 10 + x.all(4), 2);
         Doc.due("they are nowhere", x.all(1) + x.all(2), 0);
+        for (int d = 0; d <= 3; d++) {
+            x = Check.row("sn4d" + d + ";qf0t1;qf3t2m2;qf3t0");
+            x.tick(20);
+            Doc.due("READ ahead of the last one, DELAY " + d, x.all(3) * 100 + x.all(4) * 10 + x.all(2), 400);
+        }
         x = Check.row("sn3d3;qf0t2;qf2t0");
         x.cut(0);
         x.tick(9);
@@ -553,6 +563,12 @@ final class TickEdges {
             x.tick(9);
             Doc.due("the first, DELAY " + d, x.arrival(1, 3), d);
             Doc.due("the second, DELAY " + d, x.arrival(0, 3), d + 1);
+            x = Check.row("sn3d" + d + ";qf0t2;qf2t0");
+            x.tick(1);
+            x.come(0, 2, 0, 1);
+            x.come(2, 0, 0, 1);
+            x.tick(9);
+            for (int i = 0; i < 4; i++) Doc.due("one TICK later, over two HOPS of DELAY " + d, x.arrival(i, 3), 2 * d);
         }
     }
 
@@ -600,6 +616,16 @@ final class TickEdges {
         x.come(1, 2, 0, 1);
         Doc.due("behind what is left", x.waiting(1, 0, 0, 3, 0), 14);
         Doc.due("all behind the first one", x.withdraw(1, 2) * 10 + Check.line(x, 1, 0, 0, 0), 31);
+        for (int n = 2; n <= 8; n++) {
+            for (int levels = 1; levels <= 3; levels++) {
+                x = Check.row("sn" + n + "l" + levels);
+                for (int l = 0; l < levels; l++) x.come(n - 1, 0, l, 4);
+                for (int l = 0; l < levels; l++) x.come(0, n - 1, l, 3);
+                Doc.due("of the last STATION, of all LEVELS", x.withdraw(n - 1, 0), 3 * levels);
+                Doc.due("of the first STATION, of all LEVELS", x.withdraw(0, n - 1), 2 * levels);
+                Doc.due("ACTIVE ones stay", x.all(1) * 10 + x.all(8), 22 * levels);
+            }
+        }
     }
 
     private static void undone() {
@@ -667,12 +693,36 @@ final class TickEdges {
         for (int i = 0; i < 61; i++) x.eraser(0);
         x.undo();
         Doc.due("the LOG of 60 is whole again", x.count(3), 60);
+        x = Check.row("sn2");
+        for (int i = 1; i <= 64; i++) x.tick(1 + i % 60);
+        for (int i = 0; i < 3; i++) x.undo();
+        for (int i = 0; i < 60; i++) Doc.due("log(" + i + ", 1) of 61", x.log(i, 1), 1 + (61 - i) % 60);
+        x = Check.row("sn3d1;qf0t2m3");
         x.tick(5);
         int arrived = x.count(5);
         x.undo();
         Doc.due("ARRIVALS, DELIVERED, WAITS", x.count(5) * 100 + x.all(3) * 10 + x.all(5), 0);
         Doc.due("done again", x.tick(5) == arrived && x.count(5) == arrived, true);
+        for (int i = 0; i < Lived.SEEDS; i++) {
+            int seed = i;
+            SlotBuses y = Lived.row(seed);
+            Doc.due("less than 40", y.count(4) > 9 && y.count(4) < 40, true);
+            for (Face.Call act : ACTS) {
+                if (act.on(Lived.row(seed)) != NONE) {
+                    Lived.alike("UNDONE, seed " + seed, () -> {
+                        SlotBuses z = Lived.row(seed);
+                        act.on(z);
+                        z.undo();
+                        return z;
+                    }, () -> Lived.row(seed));
+                }
+            }
+        }
     }
+
+    private static final Face.Call[] ACTS = {x -> x.come(1, 2, 0, 2), x -> x.come(2, 0, 0, 1), x -> x.tick(7), x -> x.cut(0), x -> x.cut(1),
+        x -> x.heal(0), x -> x.heal(1), x -> x.eraser(0), x -> x.withdraw(0, 1), x -> x.withdraw(2, 1), x -> x.reserve(0, 0, 0),
+        x -> x.reserve(1, 2, 9)};
 
     private static void statuses() {
         Doc.says(0, "STATUS: how many ACTS were refused as there was no such one, no ROW (0), out of bounds (1), it is so, there is none (2), too much: 30, TIME (3)");
