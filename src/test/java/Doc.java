@@ -6,9 +6,8 @@ import java.util.regex.Pattern;
 /** The document, so that a test can say which of its words it holds the class to; section 0 is all ahead of promise 1. */
 final class Doc {
     private static final int PROMISES = 42;
-    /** A part of a sentence with one of these names a bound, an end, or what is refused. */
-    private static final Pattern EDGE = Pattern.compile("\\d|NONE|HIDDEN|False|NoSuch|\\b(most|least|latest|lowest|greatest|first|last|"
-        + "none|nothing|no such|empty|EMPTY|above|below|within|refused|alone|less|stays?|gone|instead|round)\\b");
+    /** Words say something; signs and the numbers of the parts of the Terms (==== 2.) do not. */
+    private static final Pattern SAYS = Pattern.compile("[A-Za-z]");
     private static final String[] SECTIONS = new String[PROMISES + 1];
     private static final boolean[][] QUOTED = new boolean[PROMISES + 1][];
     private static boolean there = false;
@@ -67,31 +66,29 @@ final class Doc {
         lookedAhead = Check.looked();
     }
 
-    /** Every part of a sentence that names an edge was quoted. */
+    /** Every word that says what is so was quoted; of the face LanguageTest looks at each line. */
     static void close() {
         closeQuote();
-        for (int p = 0; there && p <= PROMISES; p++) {
-            int from = p == 0 ? SECTIONS[0].indexOf("## Terms") : 0;
-            for (int to = from + 1; to <= SECTIONS[p].length(); to++) {
-                if (to == SECTIONS[p].length() || SECTIONS[p].charAt(to) == ' ' && ".;:".indexOf(SECTIONS[p].charAt(to - 1)) >= 0) {
-                    lookAtPart(p, from, to);
-                    from = to;
-                }
-            }
+        if (there) {
+            lookAt(0, "## What it is", "## The public face");
+            lookAt(0, "## Terms", "");
+            for (int p = 1; p <= PROMISES; p++) lookAt(p, "`: ", "");
         }
         System.out.println(quotes + " sentences of the document held to");
     }
 
-    private static void lookAtPart(int section, int from, int to) {
-        String part = SECTIONS[section].substring(from, to);
-        boolean heading = part.contains("## Promise") || part.endsWith("`:") || part.matches(" ==== \\d\\.");
-        if (heading || !EDGE.matcher(part).find()) {
-            return;
-        }
-        boolean quoted = false;
+    private static void lookAt(int section, String behind, String aheadOf) {
+        String all = SECTIONS[section];
+        int from = all.indexOf(behind) + behind.length();
+        int to = aheadOf.isEmpty() ? all.length() : all.indexOf(aheadOf);
+        Check.due("section " + section + " has " + behind, from >= behind.length() && to > from, true);
+        int unquoted = from;
         for (int i = from; i < to; i++) {
-            quoted |= QUOTED[section][i];
+            if (QUOTED[section][i] || i == to - 1) {
+                String words = all.substring(unquoted, i);
+                Check.due("no test quotes section " + section + ": " + words, SAYS.matcher(words).find(), false);
+                unquoted = i + 1;
+            }
         }
-        Check.due("no test quotes section " + section + ":" + part, quoted, true);
     }
 }

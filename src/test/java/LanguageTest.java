@@ -26,6 +26,8 @@ import java.lang.reflect.Constructor;
 import java.lang.reflect.Field;
 import java.lang.reflect.Method;
 import java.lang.reflect.Modifier;
+import java.nio.file.Files;
+import java.nio.file.Path;
 import java.util.HashMap;
 import java.util.HashSet;
 import java.util.List;
@@ -81,6 +83,46 @@ public final class LanguageTest {
             for (Method m : inner.getDeclaredMethods()) mustBe(!FACE.contains(m.getName()), "a name of the face: " + m);
         }
         mustBe(c.getDeclaredClasses().length <= 11, "rule 11, some twelve classes");
+    }
+
+    /** What the class shows, in the words of the document's face. */
+    private static Set<String> shown() throws IllegalAccessException {
+        Set<String> lines = new TreeSet<>();
+        for (Method m : SlotBuses.class.getDeclaredMethods()) {
+            if (Modifier.isPublic(m.getModifiers())) {
+                lines.add(Modifier.toString(m.getModifiers()) + " " + m.getReturnType().getSimpleName() + " " + m.getName() + typesOf(m.getParameterTypes())
+                    + (m.getExceptionTypes().length == 0 ? "" : " throws " + m.getExceptionTypes()[0].getSimpleName()));
+            }
+        }
+        for (Constructor<?> made : SlotBuses.class.getDeclaredConstructors()) lines.add("public SlotBuses" + typesOf(made.getParameterTypes()));
+        for (Field f : SlotBuses.class.getFields()) {
+            lines.add(Modifier.toString(f.getModifiers()) + " " + f.getType().getSimpleName() + " " + f.getName() + " = " + f.getInt(null));
+        }
+        return lines;
+    }
+
+    private static String typesOf(Class<?>[] types) {
+        StringBuilder text = new StringBuilder("(");
+        for (Class<?> type : types) text.append(text.length() == 1 ? "" : ", ").append(type.getSimpleName());
+        return text.append(")").toString();
+    }
+
+    private static void lookAtDocument(Path doc) throws Exception {
+        if (!Files.exists(doc)) {
+            System.out.println("no " + doc + ": the face is not held against it");
+            return;
+        }
+        String all = Files.readString(doc);
+        String face = all.substring(all.indexOf("public final class SlotBuses {") + 30, all.indexOf("## Terms"));
+        Set<String> due = new TreeSet<>();
+        for (String line : face.substring(0, face.indexOf("}")).split(";")) {
+            // Names of parameters are free.
+            if (!line.isBlank()) due.add(line.trim().replaceAll("(int|long) \\w+(?=[,)])", "$1"));
+        }
+        Set<String> shown = shown();
+        mustBe(due.size() == FACE.size() + 3, "the document's face was read");
+        for (String line : due) mustBe(shown.contains(line), "rule 1, the document's " + line);
+        for (String line : shown) mustBe(due.contains(line), "rule 1, not the document's: " + line);
     }
 
     /** Goes through the source once. */
@@ -222,6 +264,7 @@ public final class LanguageTest {
 
     public static void main(String[] args) throws Exception {
         lookAtFace();
+        lookAtDocument(Path.of(args.length > 0 ? args[0] : ".", "..", "shared", "DOC.md"));
         File source = new File(args.length > 0 ? args[0] : ".", "src/main/java/SlotBuses.java");
         JavaCompiler compiler = ToolProvider.getSystemJavaCompiler();
         StandardJavaFileManager files = compiler.getStandardFileManager(null, null, null);

@@ -182,7 +182,7 @@ final class LookEdges {
             Doc.due("no such one", x.next(i), NONE);
             Doc.due("as AHEAD tells", x.ahead(200, 0), i);
         }
-        Doc.says(25, "NONE: no such one waits or is under way, not within 200 (nor to TIME's end).");
+        Doc.says(25, "WHEN. NONE: no such one waits or is under way, not within 200 (nor to TIME's end).");
         for (int number : new int[] {1, 0, -1, MAX}) Doc.due("no ROW", new SlotBuses().when(number), NONE);
         SlotBuses x = Check.row("sn3d3;qf0t2m3;qf1t0");
         for (int number : new int[] {0, -1, 5, MIN, MAX}) Doc.due("when(" + number + ")", x.when(number), NONE);
@@ -332,7 +332,7 @@ final class LookEdges {
         Doc.due("what will be LOST is none of them", x.firstCome(), true);
         x = Check.row("sn2;qm9");
         for (int i = 0; i < 3; i++) Doc.due("again and again", x.firstCome(), true);
-        Doc.says(30, "False: no ROW, too.");
+        Doc.says(30, "FIRST COME. False: no ROW, too.");
         Doc.due("no ROW", new SlotBuses().firstCome(), false);
         Doc.due("none waits", Check.row("s").firstCome(), true);
         Doc.due("one waits", Check.row("q").firstCome(), true);

@@ -57,7 +57,7 @@ final class RowEdges {
     }
 
     private static void line() {
-        Doc.says(7, "0 how long the LINE is, 1 whether its first one is ACTIVE (1, 0), 2 RQ, 3 CD, 4 OWED, 5 the number of its first SEGMENT (0: none).");
+        Doc.says(7, "Of a STATION, a BUS, a LEVEL: 0 how long the LINE is, 1 whether its first one is ACTIVE (1, 0), 2 RQ, 3 CD, 4 OWED, 5 the number of its first SEGMENT (0: none).");
         SlotBuses x = Check.row("sn3b1;qf1t2");
         x.tick(1);
         int[] empty = {0, 0, 1, 0, 0, 0};
@@ -105,7 +105,7 @@ final class RowEdges {
     }
 
     private static void station() {
-        Doc.says(9, "0 how many wait, 1 DELIVERED to it, 2 that it sent, 3, 4 SENT of BUS 0, 1, 5 the greatest WAIT of those that it sent and that were DELIVERED "
+        Doc.says(9, "Of a STATION: 0 how many wait, 1 DELIVERED to it, 2 that it sent, 3, 4 SENT of BUS 0, 1, 5 the greatest WAIT of those that it sent and that were DELIVERED "
             + "(0 without). NONE: no such ones.");
         SlotBuses x = Check.row("sn3b9;qf0t2m3;qf2t0");
         int[][] first = {{3, 0, 0, 0, 0, 0}, {0, 0, 0, 0, 0, 0}, {1, 0, 0, 0, 0, 0}};
@@ -133,7 +133,7 @@ final class RowEdges {
     }
 
     private static void hop() {
-        Doc.says(10, "SLOTS on it (0), those with a SEGMENT (1), asks that they bear (2; of all LEVELS), those that are RESERVED (3). NONE: no such ones.");
+        Doc.says(10, "Of a HOP, a BUS: SLOTS on it (0), those with a SEGMENT (1), asks that they bear (2; of all LEVELS), those that are RESERVED (3). NONE: no such ones.");
         SlotBuses x = Check.row("sn3d3l3;qf1t0;qf1t0l1;qf1t0l2;qf0t2m2");
         x.reserve(0, 2, 2);
         x.tick(3);

@@ -339,7 +339,7 @@ final class TextEdges {
         Doc.due("rule(0)", x.rule(0), NONE);
         Doc.due("all(0)", x.all(0), HIDDEN);
         for (int what = 0; what < 6; what++) Doc.due("count(" + what + ")", x.count(what), 0);
-        Doc.says(0, "An object is used for at most 512 calls after it has been made");
+        Doc.says(0, "An object is used for at most 512 calls after it has been made; what later calls answer is free.");
         x = new SlotBuses();
         x.feed('s' << 24 | 'n' << 16 | '2' << 8, 0, 0, 0, 0);
         x.text(0);

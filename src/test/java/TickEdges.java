@@ -237,7 +237,7 @@ final class TickEdges {
     }
 
     private static void reads() {
-        Doc.says(0, "(1) has it a SEGMENT not READ TO this STATION, that is DELIVERED (READ then)");
+        Doc.says(0, "At a STATION: (1) has it a SEGMENT not READ TO this STATION, that is DELIVERED (READ then)");
         SlotBuses x = Check.row("sn4;qf0t1");
         Doc.due("once", x.tick(1) * 10 + x.tick(9), 10);
         Doc.due("there", x.station(0, 1) * 1000 + x.station(1, 1) * 100 + x.station(2, 1) * 10 + x.station(3, 1), 100);
